@@ -36,6 +36,7 @@ public final class VoltSlopesPromises {
         input();
         count();
         digest();
+        exampleOfReadme();
         System.out.println(wrong == 0 ? "all promises are kept" : wrong + " answers are not as promised");
         if (wrong != 0) {
             System.exit(1);
@@ -801,5 +802,18 @@ public final class VoltSlopesPromises {
         due("24: again", x.digest(), h);
         x.blank();
         due("24: another one", x.digest() == h ? 1 : 0, 0);
+    }
+
+    // ---- README.md
+
+    private static void exampleOfReadme() {
+        VoltSlopes x = new VoltSlopes();
+        x.dc(1234567);
+        x.hum(1000000, 0);
+        due("README: settings", set(x, "N20;Z2;F8;W100"), 0);
+        due("README: over", x.go(8), 0);
+        due("README: the mean", x.filter(0), 1234593);
+        due("README: what is left", x.latest(7), -5350);
+        due("README: the range", x.about(0), 0);
     }
 }

@@ -76,7 +76,6 @@ public final class VoltSlopesRules {
             if (!isPrivate(f)) {
                 found.add(f.getName());
             }
-            must(!Modifier.isStatic(f.getModifiers()) || Modifier.isFinal(f.getModifiers()), "static " + f.getName() + " is final");
         }
         must(found.equals(new TreeSet<>(Arrays.asList("NONE", "UNKNOWN", "OUTSIDE", "STATE", "FULL"))), "the face's constants: " + found);
         must(VoltSlopes.NONE == -1 && VoltSlopes.UNKNOWN == -1000000001 && VoltSlopes.OUTSIDE == -1000000002
@@ -86,16 +85,24 @@ public final class VoltSlopesRules {
     private static void classesInside() {
         Class<?>[] inside = VoltSlopes.class.getDeclaredClasses();
         must(inside.length <= 11, "some twelve classes at most");
+        mayBeHeld(VoltSlopes.class);
         for (Class<?> c : inside) {
             must(Modifier.isStatic(c.getModifiers()) && !Modifier.isPublic(c.getModifiers()), c.getName() + " is static, not public");
-            int own = 0;
-            for (Field f : c.getDeclaredFields()) {
-                own += Modifier.isStatic(f.getModifiers()) ? 0 : 1;
-            }
-            must(own <= 20, c.getName() + " has some twenty fields at most");
-            for (Method m : c.getDeclaredMethods()) {
-                must(m.getParameterCount() <= 7, m.getName() + " takes seven at most");
-            }
+            mayBeHeld(c);
+        }
+    }
+
+    /** Fields and parameters are few, and nothing static can change. */
+    private static void mayBeHeld(Class<?> c) {
+        int own = 0;
+        for (Field f : c.getDeclaredFields()) {
+            boolean isStatic = Modifier.isStatic(f.getModifiers());
+            own += isStatic ? 0 : 1;
+            must(!isStatic || Modifier.isFinal(f.getModifiers()), "static " + f.getName() + " of " + c.getName() + " is final");
+        }
+        must(own <= 20, c.getName() + " has some twenty fields at most");
+        for (Method m : c.getDeclaredMethods()) {
+            must(m.getParameterCount() <= 7, m.getName() + " takes seven at most");
         }
     }
 
